@@ -50,18 +50,13 @@ public final class MendingRoads {
     private static final int GOING_H = 5;
     private static final int GOING_FACTS = 6;
 
-    private final int[] tape = new int[MOST_BYTES];
-    private int tapeLength = 0;
-    private int faultPlace = NONE;
+    private final Reader reader = new Reader();
     private Land land = new Land();
-    private Land spare = new Land();
-    private final Reader reader = new Reader(tape, spare);
     private final State now = new State();
-    private final State trial = new State();
     private final State[] images = new State[MOST_IMAGES];
     private int imageCount = 0;
-    private final Walk walk = new Walk(land, now);
-    private final Search search = new Search(walk);
+    private final Walk walk = new Walk();
+    private final Search search = new Search();
     private final Rounds rounds = new Rounds();
     private final int[] verdict = new int[4];
 
@@ -75,42 +70,33 @@ public final class MendingRoads {
     // ---- the land ----
 
     public int feed(int a, int b, int c, int d, int e) {
-        if (tapeLength + BYTES_A_FEED > MOST_BYTES) {
+        if (reader.tapeLength + BYTES_A_FEED > MOST_BYTES) {
             return NONE;
         }
-        putNumber(a);
-        putNumber(b);
-        putNumber(c);
-        putNumber(d);
-        putNumber(e);
-        return tapeLength;
-    }
-
-    private void putNumber(int number) {
-        for (int shift = 24; shift >= 0 && tapeLength < tape.length; shift -= 8) {
-            tape[tapeLength] = (number >>> shift) & 255;
-            tapeLength++;
-        }
+        reader.putNumber(a);
+        reader.putNumber(b);
+        reader.putNumber(c);
+        reader.putNumber(d);
+        reader.putNumber(e);
+        return reader.tapeLength;
     }
 
     public int land(int n) throws IllegalArgumentException {
-        demand(n >= 0 && n <= tapeLength);
-        reader.read(n, spare);
-        tapeLength = 0;
-        faultPlace = reader.faultPlace;
-        if (reader.fault != 0) {
-            return reader.fault - 10;
+        demand(n >= 0 && n <= reader.tapeLength);
+        reader.read(n);
+        if (reader.faultKind != 0) {
+            return reader.faultKind - 10;
         }
         Land old = land;
-        land = spare;
-        spare = old;
+        land = reader.into;
+        reader.into = old;
         now.makeNew(land.rest);
         imageCount = 0;
         return land.roads;
     }
 
     public int fault() {
-        return faultPlace;
+        return reader.faultPlace;
     }
 
     public int told(int what) throws IllegalArgumentException {
@@ -178,6 +164,7 @@ public final class MendingRoads {
         demandShut(shut);
         walk.begin(land, now);
         walk.passDay(shut);
+        now.take(walk.state);
         return (int) walk.tally.cost;
     }
 
@@ -186,7 +173,9 @@ public final class MendingRoads {
         demandDays(days);
         demandRowFor(rule);
         walk.begin(land, now);
-        return walk.goOn(rule, days);
+        long cost = walk.goOn(rule, days);
+        now.take(walk.state);
+        return cost;
     }
 
     public long would(int rule, int days, int what) throws IllegalArgumentException, IllegalStateException {
@@ -194,13 +183,13 @@ public final class MendingRoads {
         demandDays(days);
         demand(what >= 0 && what <= 3);
         demandRowFor(rule);
-        beginTrial();
+        walk.begin(land, now);
         long cost = walk.goOn(rule, days);
         switch (what) {
             case 0: return cost;
             case 1: return walk.tally.stays;
-            case 2: return trial.pastUseCount(land);
-            default: return trial.mostWear(land);
+            case 2: return walk.state.pastUseCount(land);
+            default: return walk.state.mostWear(land);
         }
     }
 
@@ -232,10 +221,10 @@ public final class MendingRoads {
         for (int i = 0; i < verdict.length; i++) {
             verdict[i] = NONE;
         }
-        beginTrial();
+        walk.begin(land, now);
         for (int i = 0; i < now.rowLength; i++) {
             walk.passDay(now.row[i]);
-            noteVerdict(0, i, trial.firstPastUse(land));
+            noteVerdict(0, i, walk.state.firstPastUse(land));
             noteVerdict(2, i, walk.tally.firstStays);
         }
     }
@@ -251,14 +240,14 @@ public final class MendingRoads {
         if (now.rowLength == 0) {
             return 0;
         }
-        beginTrial();
+        walk.begin(land, now);
         return walk.goOn(RING, now.rowLength);
     }
 
     public int ever(int what) throws IllegalArgumentException, IllegalStateException {
         demand(what >= 0 && what <= 3);
         demandRow();
-        beginTrial();
+        walk.begin(land, now);
         walk.plan.dry = true;
         rounds.follow(walk);
         switch (what) {
@@ -307,7 +296,7 @@ public final class MendingRoads {
         if (land.roads > MOST_TRIED_ROADS) {
             return TOO_MANY_ROADS;
         }
-        search.seek(land, now, d);
+        search.seek(walk, land, now, d);
         return what == 0 ? (int) search.least : search.firstShut;
     }
 
@@ -317,19 +306,14 @@ public final class MendingRoads {
             return TOO_MANY_ROADS;
         }
         long open = openCost(d);
-        search.seek(land, now, d);
+        search.seek(walk, land, now, d);
         return (int) (open - search.least);
     }
 
     // ---- what would be otherwise, over some days from now on ----
 
-    private void beginTrial() {
-        trial.take(now);
-        walk.begin(land, trial);
-    }
-
     private long openCost(int days) {
-        beginTrial();
+        walk.begin(land, now);
         return walk.goOn(OPEN, days);
     }
 
@@ -342,7 +326,7 @@ public final class MendingRoads {
     }
 
     private long tollCost(int t, int days) {
-        beginTrial();
+        walk.begin(land, now);
         walk.plan.toll = t;
         return walk.goOn(OPEN, days);
     }
@@ -371,7 +355,7 @@ public final class MendingRoads {
     }
 
     private long othersCost(int going, int rule, int days, boolean heedless) {
-        beginTrial();
+        walk.begin(land, now);
         walk.plan.marked = going;
         walk.plan.heedless = heedless;
         return walk.goOn(rule, days) - walk.tally.markedCost;
@@ -381,7 +365,7 @@ public final class MendingRoads {
         demandGoing(going);
         demandDays(days);
         long with = othersCost(going, OPEN, days, false);
-        beginTrial();
+        walk.begin(land, now);
         walk.plan.marked = going;
         walk.plan.absent = true;
         return with - walk.goOn(OPEN, days);
@@ -395,7 +379,7 @@ public final class MendingRoads {
     }
 
     private long heldCost(int going, int h, int days) {
-        beginTrial();
+        walk.begin(land, now);
         walk.plan.marked = going;
         walk.plan.later = h;
         return walk.goOn(OPEN, days);
@@ -425,9 +409,9 @@ public final class MendingRoads {
     }
 
     private long newCost(int road, int days) {
-        beginTrial();
+        walk.begin(land, now);
         walk.plan.extra = road;
-        trial.makeWhole(land.roads, land.rest);
+        walk.state.makeWhole(land.roads, land.rest);
         return walk.goOn(OPEN, days);
     }
 
@@ -452,8 +436,8 @@ public final class MendingRoads {
     }
 
     private long mendedCost(int road, int days) {
-        beginTrial();
-        trial.makeWhole(road, land.rest);
+        walk.begin(land, now);
+        walk.state.makeWhole(road, land.rest);
         return walk.goOn(OPEN, days);
     }
 
@@ -478,11 +462,11 @@ public final class MendingRoads {
     }
 
     private long lawCost(int n, int days) {
-        beginTrial();
+        walk.begin(land, now);
         walk.plan.rest = n;
         for (int road = 0; road < land.roads; road++) {
-            if (trial.rested[road] > n) {
-                trial.makeWhole(road, n);
+            if (walk.state.rested[road] > n) {
+                walk.state.makeWhole(road, n);
             }
         }
         return walk.goOn(OPEN, days);
@@ -534,7 +518,7 @@ public final class MendingRoads {
         demandDays(days);
         demand(what >= 0 && what <= 2);
         demandRowFor(rule);
-        beginTrial();
+        walk.begin(land, now);
         walk.plan.lots = true;
         walk.plan.lot = seed;
         long cost = walk.goOn(rule, days);
@@ -569,7 +553,7 @@ public final class MendingRoads {
         switch (what) {
             case 0: return now.rowLength;
             case 1: return imageCount;
-            case 2: return tapeLength;
+            case 2: return reader.tapeLength;
             default: return NONE;
         }
     }
@@ -666,7 +650,7 @@ public final class MendingRoads {
         }
     }
 
-    /** Reads a land's text; a fault ends the reading. */
+    /** The tape, and the reading of a land's text from it; a fault ends the reading. */
     private static final class Reader {
         private static final int NOT_THERE = 1;
         private static final int NONE_SUCH = 2;
@@ -690,49 +674,53 @@ public final class MendingRoads {
         /** Above every number that may stand in a text, so that long ones don't wrap. */
         private static final int TOO_GREAT = 100000;
 
-        int fault;
-        int faultPlace;
-        private final int[] text;
+        int tapeLength = 0;
+        int faultKind = 0;
+        int faultPlace = NONE;
+        Land into = new Land();
+        private final int[] tape = new int[MOST_BYTES];
         private final int[] numbers = new int[ROAD_FACTS];
         private int length;
         private int at;
         private int clauses;
-        private Land into;
 
-        Reader(int[] tape, Land land) {
-            text = tape;
-            into = land;
+        void putNumber(int number) {
+            for (int shift = 24; shift >= 0 && tapeLength < tape.length; shift -= 8) {
+                tape[tapeLength] = number >>> shift & 255;
+                tapeLength++;
+            }
         }
 
-        void read(int n, Land land) {
-            length = Math.min(n, text.length);
-            into = land;
-            land.makeEmpty();
+        /** The tape is empty then. */
+        void read(int n) {
+            length = Math.min(n, tapeLength);
+            tapeLength = 0;
+            into.makeEmpty();
             at = 0;
             clauses = 0;
-            fault = 0;
+            faultKind = 0;
             faultPlace = NONE;
             skipBlanks();
-            for (int i = 0; i <= MOST_CLAUSES && at < length && fault == 0; i++) {
+            for (int i = 0; i <= MOST_CLAUSES && at < length && faultKind == 0; i++) {
                 readClause();
                 skipBlanks();
             }
         }
 
         private void fail(int kind, int place) {
-            fault = kind;
+            faultKind = kind;
             faultPlace = place;
         }
 
         private void skipBlanks() {
-            while (at < length && text[at] == ' ') {
+            while (at < length && tape[at] == ' ') {
                 at++;
             }
         }
 
         private void readClause() {
             int start = at;
-            while (at < length && text[at] >= 'a' && text[at] <= 'z') {
+            while (at < length && tape[at] >= 'a' && tape[at] <= 'z') {
                 at++;
             }
             int kind = kindOf(start);
@@ -741,13 +729,13 @@ public final class MendingRoads {
                 fail(wrong, start);
                 return;
             }
-            for (int i = 0; i < NUMBERS_OF[kind] && fault == 0; i++) {
+            for (int i = 0; i < NUMBERS_OF[kind] && faultKind == 0; i++) {
                 readNumber(kind, i);
             }
-            if (fault == 0) {
+            if (faultKind == 0) {
                 readEnd();
             }
-            if (fault == 0) {
+            if (faultKind == 0) {
                 clauses++;
                 tell(kind);
             }
@@ -783,7 +771,7 @@ public final class MendingRoads {
                 return false;
             }
             for (int i = 0; i < word.length(); i++) {
-                if (text[start + i] != word.charAt(i)) {
+                if (tape[start + i] != word.charAt(i)) {
                     return false;
                 }
             }
@@ -815,8 +803,8 @@ public final class MendingRoads {
             skipBlanks();
             int start = at;
             int value = 0;
-            while (at < length && text[at] >= '0' && text[at] <= '9') {
-                value = Math.min(TOO_GREAT, value * 10 + text[at] - '0');
+            while (at < length && tape[at] >= '0' && tape[at] <= '9') {
+                value = Math.min(TOO_GREAT, value * 10 + tape[at] - '0');
                 at++;
             }
             if (at == start) {
@@ -830,7 +818,7 @@ public final class MendingRoads {
 
         private void readEnd() {
             skipBlanks();
-            if (at < length && text[at] == ';') {
+            if (at < length && tape[at] == ';') {
                 at++;
             } else {
                 fail(NOT_THERE, at);
@@ -1224,25 +1212,20 @@ public final class MendingRoads {
         }
     }
 
-    /** Goes through days, from a state that it changes. */
+    /** Goes through days in a state of its own. */
     private static final class Walk {
         final Ways ways = new Ways();
         final Plan plan = new Plan();
         final Tally tally = new Tally();
         private final Gate gate = new Gate();
         private final int[] weights = new int[MOST_ROADS + 1];
-        Land land;
-        State state;
+        final State state = new State();
+        Land land = new Land();
         private int daysGone;
-
-        Walk(Land ofLand, State from) {
-            land = ofLand;
-            state = from;
-        }
 
         void begin(Land ofLand, State from) {
             land = ofLand;
-            state = from;
+            state.take(from);
             daysGone = 0;
             plan.makePlain(ofLand);
             tally.makeEmpty();
@@ -1336,37 +1319,34 @@ public final class MendingRoads {
 
         long least;
         int firstShut;
+        /** As it is at the beginning of each day. */
         private final State[] levels = new State[MOST_TRIED_DAYS + 1];
-        private final Walk walk;
-        private int sets;
         private int days;
 
-        Search(Walk byWalk) {
-            walk = byWalk;
+        Search() {
             for (int i = 0; i < levels.length; i++) {
                 levels[i] = new State();
             }
         }
 
-        void seek(Land land, State from, int d) {
+        void seek(Walk walk, Land land, State from, int d) {
             days = Math.min(d, MOST_TRIED_DAYS);
-            sets = 1 << land.roads;
             least = UNTRIED;
             firstShut = 0;
             levels[0].take(from);
-            tryDays(0, 0, 0, land);
+            tryDays(walk, land, 0, 0, 0);
         }
 
-        private void tryDays(int depth, long spent, int first, Land land) {
+        private void tryDays(Walk walk, Land land, int depth, long spent, int first) {
             if (depth >= days) {
                 least = spent;
                 firstShut = first;
                 return;
             }
+            int sets = 1 << land.roads;
             boolean canBeBetter = true;
             for (int shut = 0; shut < sets && canBeBetter; shut++) {
-                levels[depth + 1].take(levels[depth]);
-                walk.begin(land, levels[depth + 1]);
+                walk.begin(land, levels[depth]);
                 walk.passDay(shut);
                 long cost = spent + walk.tally.cost;
                 // On the last day shutting helps only where to stay costs less than to go.
@@ -1374,7 +1354,8 @@ public final class MendingRoads {
                     canBeBetter = walk.tally.longest > STAY_COST;
                 }
                 if (cost < least) {
-                    tryDays(depth + 1, cost, depth == 0 ? shut : first, land);
+                    levels[depth + 1].take(walk.state);
+                    tryDays(walk, land, depth + 1, cost, depth == 0 ? shut : first);
                 }
             }
         }

@@ -139,7 +139,7 @@ final class FuzzTest {
             case 20: return below(3) > 0 ? call("minutes") : call("clear");
             case 21: case 22: return call("judge", around(0, 3));
             case 23: return call("minutes");
-            case 24: case 25: return below(3) == 0 ? call("ever", around(0, 3)) : null;
+            case 24: case 25: return call("ever", around(0, 3));
             case 26: return call("fewest", 1 + below(20), 1 + below(99), around(0, 2));
             case 27: return below(10) == 0 ? lastsCall() : call("fewest", around(1, 99), around(1, 99), around(0, 2));
             case 28: return model.told.roads.size() > 4 && model.told.roads.size() <= 6 ? call("best", around(1, 1), around(0, 1)) : call("best", below(5), around(0, 1));
