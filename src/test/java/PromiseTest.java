@@ -1,7 +1,10 @@
 import java.util.NoSuchElementException;
 import java.util.function.LongSupplier;
 
-/** Each promise by runs reckoned by hand: ordinary inputs, the edges that the document names, wrong inputs. */
+/**
+ * Each promise: ordinary inputs, the edges that the document names, wrong inputs. The answers are reckoned by hand,
+ * but for two lands found by a search with the program (marked so), whose answers Oracle gives too.
+ */
 final class PromiseTest {
     private static final Class<?> WRONG = IllegalArgumentException.class;
     private static final Class<?> NO_ROAD = IndexOutOfBoundsException.class;
@@ -592,7 +595,8 @@ final class PromiseTest {
         // a row as long as two weeks comes round with them
         for (int i = 0; i < 12; i++) y.row(0);
         due(14, y.ever(2));
-        // from the first day on it would be 4,249 days till the round is closed: from day 249 on it is 4,000
+        // From the first day on it would be 4,249 days till the round is closed: from day 249 on it is 4,000
+        // (found by a search, not by hand).
         MendingRoads z = of("places 5;law 10;road 1 3 23 2 22;road 1 2 28 3 14;road 0 4 4 0 14;road 0 2 30 1 15;road 4 1 17 1 5;"
             + "road 2 3 16 3 17;road 3 4 6 1 24;road 1 4 19 2 5;road 3 1 23 2 28;road 1 0 11 3 23;going 2 3 67 2;going 3 0 41 2;"
             + "going 1 2 42 3;going 1 3 8 1;going 2 1 83 2;going 1 4 46 1;going 1 3 107 5;");
@@ -922,7 +926,7 @@ final class PromiseTest {
         due(2 + 2 + 82, y.law(3, 6));
         due(2 + 9 + 1, y.law(4, 6));
         due(4, y.other(6));
-        // the greatest may be the best too
+        // the greatest may be the best too (found by a search, not by hand)
         MendingRoads z = of("places 3;road 2 0 4 7 8;road 0 1 3 0 3;going 1 0 33 4;going 2 0 100 1;going 2 1 60 4;");
         due(9197, z.law(4, 13));
         due(10156, z.law(10, 13));
