@@ -465,7 +465,8 @@ public final class MendingRoads {
         walk.begin(land, now);
         walk.plan.rest = n;
         for (int road = 0; road < land.roads; road++) {
-            if (walk.state.rested[road] > n) {
+            // Just n will do: under this law a road that has rested so long is whole already.
+            if (walk.state.rested[road] >= n) {
                 walk.state.makeWhole(road, n);
             }
         }

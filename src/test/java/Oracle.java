@@ -707,10 +707,9 @@ final class Oracle {
         Walk w = new Walk();
         w.rest = n;
         for (int r = 0; r < told.roads.size(); r++) {
-            if (w.n.rest[r] > n) {
-                w.n.rest[r] = n;
-                w.n.wear[r] = 0;
-            }
+            if (w.n.rest[r] > n) w.n.rest[r] = n;
+            // as at any DAY's end: with n RESTED DAYS the WEAR is 0
+            if (w.n.rest[r] == n) w.n.wear[r] = 0;
         }
         return w.on(0, days).cost();
     }

@@ -907,10 +907,25 @@ final class PromiseTest {
         refused(WRONG, () -> x.law(3, 0));
         refused(WRONG, () -> x.law(3, 367));
         x.day(0);
-        // five now, and it is the day: above 4 it is whole at once, 5 are not above 5
+        // five now, and it is the day: with a law of five or less it is whole at once
         due(5, x.law(4, 1));
-        due(8, x.law(5, 1));
+        due(5, x.law(5, 1));
+        due(8, x.law(6, 1));
         due(8, x.law(11, 1));
+        // to ask changes nothing
+        due(3, x.road(0, 5));
+        due(5, x.road(0, 6));
+        // past use, with just so many days of rest: open from the first day on
+        MendingRoads y = of("road 0 1 5 9 2;going 0 1 17 3;");
+        y.run(0, 4);
+        due(-1, y.road(0, 7));
+        due(5, y.law(3, 1));
+        due(1000, y.law(4, 1));
+        // the rested days are just n then, not more: used on the first day, it is worn on the next
+        MendingRoads z = of("road 0 1 5 9 30;going 0 1 49 1;");
+        z.run(0, 4);
+        due(5 + 14, z.law(3, 2));
+        due(14 + 23, z.law(4, 2));
     }
 
     private static void other() {
@@ -926,6 +941,14 @@ final class PromiseTest {
         due(2 + 2 + 82, y.law(3, 6));
         due(2 + 9 + 1, y.law(4, 6));
         due(4, y.other(6));
+        // Just so rested as the law asks: four days makes road 0 whole for the first day, and roads 1 and 2 not yet.
+        MendingRoads w = of("road 0 3 5 9 30;road 0 1 1 0 1;road 1 2 1 9 30;road 0 2 9 0 30;"
+            + "going 0 3 33 9;going 0 2 2 2;going 0 2 32 9;going 1 2 64 1;");
+        w.run(0, 5);
+        due(5 + 2 + 82, w.law(3, 2));
+        due(5 + 9 + 1, w.law(4, 2));
+        due(86 + 9 + 19, w.law(5, 2));
+        due(4, w.other(2));
         // the greatest may be the best too (found by a search, not by hand)
         MendingRoads z = of("places 3;road 2 0 4 7 8;road 0 1 3 0 3;going 1 0 33 4;going 2 0 100 1;going 2 1 60 4;");
         due(9197, z.law(4, 13));
