@@ -33,19 +33,21 @@ final class FuzzTest {
     public static void main(String[] args) {
         int runs = args.length > 0 ? Integer.parseInt(args[0]) : 1500;
         long first = args.length > 1 ? Long.parseLong(args[1]) : 1;
+        int made = 0;
         int wrong = 0;
         long calls = 0;
         for (long seed = first; seed < first + runs && wrong < 5; seed++) {
             FuzzTest t = new FuzzTest(seed);
             String found = t.go();
+            made++;
             calls += t.calls;
             if (found != null) {
                 wrong++;
                 System.out.println("seed " + seed + ": " + found);
             }
         }
-        System.out.println("FuzzTest: " + runs + " runs, " + calls + " calls");
-        System.out.println((runs - wrong) + " passed, " + wrong + " failed");
+        System.out.println("FuzzTest: " + made + " runs of " + runs + ", " + calls + " calls");
+        System.out.println((made - wrong) + " passed, " + wrong + " failed");
         if (wrong != 0) System.exit(1);
     }
 

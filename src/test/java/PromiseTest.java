@@ -595,6 +595,20 @@ final class PromiseTest {
         // a row as long as two weeks comes round with them
         for (int i = 0; i < 12; i++) y.row(0);
         due(14, y.ever(2));
+        // past use now, by two wet days: what it is at the end of the first day counts
+        MendingRoads w = of("road 0 1 5 0 1;wet 0;wet 1;law 3;");
+        w.row(0);
+        w.run(0, 3);
+        due(-1, w.road(0, 7));
+        due(0, w.ever(0));
+        due(2, w.ever(1));
+        due(7, w.ever(2));
+        due(0, w.ever(3));
+        w.day(0);
+        due(-1, w.road(0, 7));
+        due(1, w.ever(0));
+        due(1, w.ever(1));
+        due(-1, w.ever(3));
         // From the first day on it would be 4,249 days till the round is closed: from day 249 on it is 4,000
         // (found by a search, not by hand).
         MendingRoads z = of("places 5;law 10;road 1 3 23 2 22;road 1 2 28 3 14;road 0 4 4 0 14;road 0 2 30 1 15;road 4 1 17 1 5;"
