@@ -1,76 +1,8 @@
-import java.util.NoSuchElementException;
-import java.util.function.LongSupplier;
-
 /**
  * Each promise: ordinary inputs, the edges that the document names, wrong inputs. The answers are reckoned by hand,
  * but for two lands found by a search with the program (marked so), whose answers Oracle gives too.
  */
-final class PromiseTest {
-    private static final Class<?> WRONG = IllegalArgumentException.class;
-    private static final Class<?> NO_ROAD = IndexOutOfBoundsException.class;
-    private static final Class<?> NO_GOING = NoSuchElementException.class;
-    private static final Class<?> NO_ROW = IllegalStateException.class;
-
-    private static int passed = 0;
-    private static int failed = 0;
-    private static int promise = 0;
-
-    private static void due(long want, long got) {
-        if (got == want) {
-            passed++;
-            return;
-        }
-        failed++;
-        System.out.println("promise " + promise + ", line " + line() + ": answered " + got + ", due is " + want);
-    }
-
-    private static void refused(Class<?> why, LongSupplier call) {
-        String got;
-        try {
-            got = "answer " + call.getAsLong();
-        } catch (RuntimeException e) {
-            got = e.getClass().getName();
-        }
-        if (got.equals(why.getName())) {
-            passed++;
-            return;
-        }
-        failed++;
-        System.out.println("promise " + promise + ", line " + line() + ": " + got + ", due is " + why.getName());
-    }
-
-    private static int line() {
-        StackTraceElement[] all = new Throwable().getStackTrace();
-        return all[2].getLineNumber();
-    }
-
-    private static int feed(MendingRoads x, String text) {
-        StringBuilder t = new StringBuilder(text);
-        while (t.length() % 20 != 0) t.append((char) 0);
-        int answer = 0;
-        for (int i = 0; i < t.length(); i += 20) {
-            int[] n = new int[5];
-            for (int j = 0; j < 20; j++) n[j / 4] = n[j / 4] << 8 | t.charAt(i + j);
-            answer = x.feed(n[0], n[1], n[2], n[3], n[4]);
-        }
-        return answer;
-    }
-
-    private static int tell(MendingRoads x, String text) {
-        feed(x, text);
-        return x.land(text.length());
-    }
-
-    private static MendingRoads of(String text) {
-        MendingRoads x = new MendingRoads();
-        int answer = tell(x, text);
-        if (answer < 0) {
-            failed++;
-            System.out.println("promise " + promise + ": the text <" + text + "> has fault " + answer + " at " + x.fault());
-        }
-        return x;
-    }
-
+final class PromiseTest extends Checks {
     private static void fault(int kind, int place, String text) {
         MendingRoads x = new MendingRoads();
         due(kind == 0 ? x.told(1) : kind - 10, tell(x, text));
@@ -85,21 +17,16 @@ final class PromiseTest {
             PromiseTest::keep, PromiseTest::careless, PromiseTest::each, PromiseTest::hold, PromiseTest::who, PromiseTest::more,
             PromiseTest::which, PromiseTest::men, PromiseTest::beside, PromiseTest::law, PromiseTest::other, PromiseTest::fits,
             PromiseTest::seed, PromiseTest::image, PromiseTest::on, PromiseTest::count};
+        int promise = 0;
         for (Runnable test : all) {
             promise++;
+            where = "promise " + promise;
             int before = passed + failed;
             test.run();
-            if (passed + failed == before) {
-                failed++;
-                System.out.println("promise " + promise + " has no test");
-            }
+            check(passed + failed > before, "no test");
         }
-        if (promise != 39) {
-            failed++;
-            System.out.println("there are 39 promises");
-        }
-        System.out.println(passed + " passed, " + failed + " failed");
-        if (failed != 0) System.exit(1);
+        check(promise == 39, "there are 39 promises");
+        end();
     }
 
     // ---- the land ----
@@ -1028,7 +955,7 @@ final class PromiseTest {
         refused(WRONG, () -> x.seed(0, 1, 0, 3));
         refused(WRONG, () -> x.seed(0, 1, 0, -1));
         x.row(1);
-        // the first draw of 0 is 0: he would go, but it is shut, and so is the sure one's way; the second's draw is 2
+        // the first draw of 0 is 0: he would go, but it is shut, and so is the sure one's way; the second's draw is 4
         due(2000, x.seed(1, 1, 0, 0));
         due(0, x.seed(1, 1, 0, 1));
         due(2, x.seed(1, 1, 0, 2));
