@@ -302,6 +302,28 @@ final class DaySentencesTest extends Sentences {
         MendingRoads nobody = of("road 0 1 5 0 1;road 0 1 5 0 9;going 0 1 127 1;going 0 2 126 1;");
         nobody.day(0);
         due(0, nobody.shuts(2));
+        // a way by a road that is told from the far end, to place 0
+        MendingRoads back = of("road 1 0 5 0 4;road 1 0 9 0 30;going 0 1 127 3;");
+        back.day(0);
+        due(1, back.shuts(2));
+        // each day for itself: on day 0 the first is open, on day 2 it would be shut, and no other leads there
+        MendingRoads anew = of("road 1 0 5 0 9;road 2 3 5 0 4;going 2 3 1 3;going 0 1 126 5;");
+        anew.day(0);
+        due(2, anew.shuts(2));
+        anew.day(0);
+        due(5, anew.road(0, 5));
+        due(0, anew.shuts(2));
+        // roads of a land before, and such as might be, are no way
+        MendingRoads former = new MendingRoads();
+        for (int i = 0; i < 3; i++) tell(former, "road 0 1 5 0 4;".repeat(9));
+        for (int i = 0; i < 2; i++) {
+            tell(former, "road 0 1 5 0 4;going 0 1 127 3;");
+            former.day(0);
+            due(0, former.shuts(2));
+        }
+        MendingRoads might = of("road 0 1 5 0 4;" + "road 2 3 5 0 4;".repeat(9) + "new 0 1 5 0 4;going 0 1 127 3;");
+        might.day(0);
+        due(0, might.shuts(2));
         // no roads, no wear
         due(0, new MendingRoads().shuts(2));
         due(0, of(SIDE).shuts(2));
@@ -414,6 +436,21 @@ final class DaySentencesTest extends Sentences {
             MendingRoads twin = midst();
             due(midst().run(rule, 1), twin.day(x.shuts(rule)));
         }
+        // now, not at the end of what was asked before, nor on another day
+        MendingRoads now = of("road 0 1 5 0 4;road 0 1 9 0 30;going 0 1 127 1;law 3;");
+        now.run(0, 3);
+        due(1, now.shuts(2));
+        now.would(2, 9, 0);
+        due(1, now.shuts(2));
+        now.image();
+        now.day(1);
+        due(1, now.shuts(3));
+        now.would(0, 9, 0);
+        due(1, now.shuts(3));
+        now.on();
+        due(0, now.shuts(3));
+        tell(now, "road 0 1 5 0 4;");
+        due(0, now.shuts(2));
         says("IllegalArgumentException: another RULE.");
         for (int rule : new int[] {1, -1, 4, Integer.MIN_VALUE, Integer.MAX_VALUE}) refuses(WRONG, w -> w.shuts(rule));
         in("Promise 11");

@@ -278,6 +278,7 @@ final class LandSentencesTest extends Sentences {
         bad(1, "law|X5;");
         bad(1, "|newroad 0 1 1 0 1;");
         bad(1, "|5;");
+        eachLetterOfAWord();
         says("blanks (32) may stand ahead of all these, and at the end.");
         MendingRoads x = of("   places   3 ;  road  0   1    5 0     9  ;going0 1 127 1;   law 7   ;    ");
         due(3, x.told(0));
@@ -294,6 +295,26 @@ final class LandSentencesTest extends Sentences {
         bad(1, "law 5;|\n");
         bad(1, "|\u00a0law 5;");
         bad(1, "law 5;|\u0000");
+    }
+
+    /** A letter that is another, one less, one more, a great one: each makes another word of it. */
+    private static void eachLetterOfAWord() {
+        String[] words = {"places", "road", "new", "going", "chance", "wait", "wet", "law"};
+        String[] numbers = {" 5;", " 0 1 5 0 5;", " 0 1 5 0 5;", " 0 1 5 5;", " 0 5;", " 0 5;", " 5;", " 5;"};
+        for (int w = 0; w < words.length; w++) {
+            String ahead = w == 0 ? "" : GOING;
+            of(ahead + words[w] + numbers[w]);
+            for (int i = 0; i < words[w].length(); i++) {
+                String before = words[w].substring(0, i);
+                String letter = words[w].substring(i, i + 1);
+                String behind = words[w].substring(i + 1);
+                bad(1, ahead + "|" + before + (letter.equals("z") ? "y" : "z") + behind + numbers[w]);
+                bad(1, ahead + "|" + before + letter + letter + behind + numbers[w]);
+                bad(1, ahead + "|" + before + behind + numbers[w]);
+                // a great letter ends the word ahead of it
+                bad(1, ahead + "|" + before + letter.toUpperCase() + behind + numbers[w]);
+            }
+        }
     }
 
     // ---- ==== 1: the faults ----
@@ -467,6 +488,7 @@ final class LandSentencesTest extends Sentences {
         due(0, tell(z, "law 3;"));
         due(1, tell(z, ROAD + NEW));
         due(10, tell(z, ROAD.repeat(10)));
+        nothingOfFormerLands();
         says("or the FAULT less 10 (all stays).");
         // each with much that would change, ahead of the fault
         String much = "road 0 1 1 0 1;new 0 1 1 0 1;going 0 1 1 1;wet 5;law 11;";
@@ -484,6 +506,33 @@ final class LandSentencesTest extends Sentences {
         refused(WRONG, () -> empty.land(1));
         refused(WRONG, () -> empty.land(-1));
         due(0, empty.land(0));
+    }
+
+    /** However many were told before, with a fault or without. */
+    private static void nothingOfFormerLands() {
+        String much = "places 3;law 3;" + ROAD + NEW + NEW + GOING + GOING + "wait 0 6;chance 0 1;wait 1 5;wet 5;wet 6;";
+        String little = GOING + NEW + "wet 9;";
+        MendingRoads x = new MendingRoads();
+        for (int i = 0; i < 4; i++) {
+            due(1, tell(x, much));
+            int[] full = {3, 1, 2, 2, 2, 3, 0};
+            for (int k = 0; k < full.length; k++) due(full[k], x.told(k));
+            due(-9, tell(x, much + "x"));
+            due(0, tell(x, little));
+            int[] few = {4, 0, 1, 1, 1, 9, 0};
+            for (int k = 0; k < few.length; k++) due(few[k], x.told(k));
+            due(8, x.going(0, 4));
+            due(0, x.going(0, 5));
+        }
+        check(all(of(little)).equals(all(x)), "something of the lands before is left");
+        // as many of each as there can be, again and again
+        String most = "places12;" + ROAD.repeat(10) + NEW.repeat(4) + GOING.repeat(14) + "wet1;wet2;wet3;wet4;wet5;wet6;wet7;wet8;";
+        for (int i = 0; i < 3; i++) {
+            due(10, tell(x, most));
+            due(-7, tell(x, most + "wet1;"));
+            due(0, tell(x, LAW.repeat(60)));
+            due(-7, tell(x, LAW.repeat(61)));
+        }
     }
 
     private static void faultAndTold() {

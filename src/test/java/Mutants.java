@@ -82,7 +82,23 @@ final class Mutants {
             changes.add(new Change(condition.start(), condition.end(), "true || " + condition.group()));
             changes.add(new Change(condition.start(), condition.end(), "false && (" + condition.group() + ")"));
         }
+        swapNames();
         changes.sort(Comparator.comparingInt(Change::from));
+    }
+
+    private void swapNames() {
+        String[][] pairs = {{"GOING_P", "GOING_Q"}, {"ROAD_A", "ROAD_B"}, {"ROAD_L", "ROAD_S"}, {"ROAD_M", "ROAD_L"}, {"GOING_W", "GOING_D"},
+            {"GOING_C", "GOING_H"}, {"wear", "rested"}, {"roads", "news"}, {"roads", "goings"}, {"wets", "goings"}, {"OPEN", "RING"}, {"WORST", "RESTED"},
+            {"RING", "RESTED"}, {"stays", "went"}, {"cost", "paid"}, {"begins", "length"}, {"now", "walk.state"}, {"LEAST_REST", "MOST_REST"},
+            {"NOT_THERE", "NONE_SUCH"}, {"TOO_MANY", "TOO_LATE"}, {"minutesOf", "tollOf"}, {"pathMinutes", "pathPaid"}, {"heedless", "absent"},
+            {"demandDays", "demandRule"}, {"day", "daysGone"}, {"rest", "MOST_REST"}, {"land.rest", "9"}, {"plan.rest", "land.rest"},
+            {"imageCount", "now.rowLength"}, {"lowMarks", "highMarks"}};
+        for (String[] pair : pairs) {
+            for (int from = 0; from < 2; from++) {
+                Matcher m = Pattern.compile("\\b" + pair[from].replace(".", "\\.") + "\\b").matcher(code);
+                while (m.find()) changes.add(new Change(m.start(), m.end(), pair[1 - from]));
+            }
+        }
     }
 
     private String tryOne(Change c, String out, List<String> tests) throws IOException, InterruptedException {

@@ -46,23 +46,40 @@ final class OtherwiseSentencesTest extends Sentences {
         due(8, x.law(9, 1));
         due(2, x.more(0, 1));
         due(3, x.men(0, 1));
-        // and each asks for itself: what was asked before is nothing to it
-        MendingRoads y = midst();
-        y.row(0);
-        String first = "";
-        String second = "";
-        for (Of call : calls) first += call.answer(y, 20) + " ";
-        for (int i = calls.length - 1; i >= 0; i--) second = calls[i].answer(y, 20) + " " + second;
-        check(first.equals(second), first + "are not " + second);
-        for (Of call : calls) {
-            MendingRoads z = midst();
-            z.row(0);
-            long alone = call.answer(z, 20);
-            z.seed(0, 20, 5, 0);
-            z.ever(0);
-            due(alone, call.answer(z, 20));
-            due(midst().seed(2, 20, 5, 0), z.seed(2, 20, 5, 0));
+        eachAsksForItself();
+    }
+
+    private static final Of[] ASKED = {(w, d) -> w.told(6), (w, d) -> w.road(0, 7), (w, d) -> w.going(1, 3), (w, d) -> w.way(1, 2), (w, d) -> w.by(1, 2, 1),
+        (w, d) -> w.shuts(2), (w, d) -> w.shuts(3), (w, d) -> w.would(1, d, 0), (w, d) -> w.would(2, d, 3), (w, d) -> w.would(3, d, 1),
+        (w, d) -> w.judge(0), (w, d) -> w.judge(3), (w, d) -> w.minutes(), (w, d) -> w.ever(1), (w, d) -> w.ever(3), (w, d) -> w.fewest(2, 9, 2),
+        (w, d) -> w.lasts(2, 3, 9), (w, d) -> w.best(2, 0), (w, d) -> w.best(2, 1), (w, d) -> w.gap(2), (w, d) -> w.toll(3, d, 0),
+        (w, d) -> w.toll(2, d, 1), (w, d) -> w.keep(d), (w, d) -> w.careless(0, d), (w, d) -> w.each(0, d), (w, d) -> w.hold(1, 3, d),
+        (w, d) -> w.who(d), (w, d) -> w.more(1, d), (w, d) -> w.which(d), (w, d) -> w.men(0, d), (w, d) -> w.beside(d), (w, d) -> w.law(3, d),
+        (w, d) -> w.other(d), (w, d) -> w.fits(14, 3), (w, d) -> w.seed(0, d, 5, 0), (w, d) -> w.seed(2, d, 7, 1), (w, d) -> w.seed(1, d, 9, 2),
+        (w, d) -> w.fault(), (w, d) -> w.count(0)};
+
+    /** What was asked before is nothing to it. */
+    private static void eachAsksForItself() {
+        for (int second = 0; second < ASKED.length; second++) {
+            long alone = ASKED[second].answer(midst(), 20);
+            for (int first = 0; first < ASKED.length; first++) {
+                MendingRoads x = midst();
+                ASKED[first].answer(x, 17);
+                long got = ASKED[second].answer(x, 20);
+                check(got == alone, "asked " + second + " behind " + first + " answered " + got + ", alone " + alone);
+            }
         }
+        // one who is held, and then goes as ever: he wears the road on day 0, not on day 1
+        MendingRoads held = of("road 0 1 5 9 30;going 0 1 1 1;wait 0 1;going 0 1 2 1;");
+        held.row(0);
+        due(9, held.hold(0, 1, 2));
+        due(9, held.each(0, 2));
+        due(0, held.careless(0, 2));
+        MendingRoads shut = of("road 0 1 5 9 30;road 0 1 6 0 30;going 0 1 1 1;wait 0 1;going 0 1 2 1;");
+        shut.row(1);
+        shut.row(0);
+        shut.hold(0, 1, 2);
+        due(1, shut.careless(0, 2));
     }
 
     private static void tolls() {
@@ -238,6 +255,19 @@ final class OtherwiseSentencesTest extends Sentences {
         // the eleventh road
         due(9 - 6, of("road 0 1 9 0 30;".repeat(10) + "new 0 1 6 0 30;going 0 1 1 1;").more(0, 1));
         due(1000 - 6, of("new 0 1 6 0 30;going 0 1 1 1;").more(0, 1));
+        // the others stay as worn as they are, whichever they are
+        MendingRoads worn = of("road 0 1 5 1 30;road 0 2 5 1 30;road 0 3 5 1 30;new 0 1 99 0 30;going 0 3 1 9;going 0 2 1 9;going 0 1 1 9;"
+            + "going 0 1 2 1;going 0 2 2 1;going 0 3 2 1;");
+        MendingRoads few = of("road 0 1 5 1 30;road 1 2 5 1 30;road 2 3 5 1 30;new 0 1 99 0 30;going 0 3 127 3;");
+        MendingRoads two = of("road 0 1 5 1 30;road 1 2 5 1 30;road 2 3 5 1 30;new 0 1 99 0 30;new 0 1 99 0 30;going 0 3 127 2;going 3 0 127 1;");
+        for (MendingRoads w : new MendingRoads[] {worn, few, two}) {
+            w.day(0);
+            due(0, w.more(0, 1));
+        }
+        // OPEN: what the row shuts is open
+        MendingRoads open = of("road 0 1 5 0 30;new 0 1 7 0 30;going 0 1 127 1;");
+        open.row(1);
+        due(0, open.more(0, 3));
         // below 0: one of weight 9 goes by the new one, and wears what another needs
         MendingRoads less = of("road 1 2 1 9 30;road 0 2 9 0 30;new 0 1 1 0 1;going 0 2 1 9;going 1 2 2 1;");
         due(9 + 1 - (2 + 82), less.more(0, 2));
@@ -320,6 +350,11 @@ final class OtherwiseSentencesTest extends Sentences {
         due(5 + 8, y.law(11, 5));
         due(y.would(0, 300, 0), y.law(3, 300));
         due(0, new MendingRoads().law(3, 366));
+        // each of the roads, the last of ten too
+        MendingRoads ten = of("road 2 3 1 0 1;".repeat(9) + "road 0 1 5 1 30;going 0 1 17 3;law 11;");
+        ten.run(0, 4);
+        due(5, ten.law(3, 1));
+        due(8, ten.law(4, 1));
         // past use with so many days of rest as the law has: open on the first day
         MendingRoads past = of("road 0 1 5 0 2;going 0 1 17 3;law 11;");
         past.run(0, 4);

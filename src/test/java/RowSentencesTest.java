@@ -154,12 +154,20 @@ final class RowSentencesTest extends Sentences {
         round(rest, 1, 1, 7, -1);
         rest.day(0);
         round(rest, 1, 0, 7, -1);
+        // no roads: a wet day leaves nothing that must mend
+        for (String land : new String[] {"wet 0;", "wet 0;new 0 1 5 0 9;"}) {
+            MendingRoads bare = of(land);
+            bare.day(0);
+            bare.row(0);
+            round(bare, 1, 0, 7, -1);
+        }
         // the same rest, but not the same wear: 31 days of use and 9 of rest, 40 and the week's 7
         for (int road = 0; road < 10; road++) {
             MendingRoads wear = of("road 0 1 9 0 9;".repeat(road) + "road 2 3 5 0 30;" + "road 0 1 9 0 9;".repeat(9 - road) + "going 2 3 127 1;");
             wear.row(0);
             round(wear, 0, 0, 280, 30);
         }
+        roundsByTheirDays();
         says("after how many DAYS for the first time, how long the ROUND is, whether ever a ROAD is past use, or a GOING STAYS.");
         // one a week, mended in between: the round begins at once
         MendingRoads x = of("road 0 1 5 0 9;going 0 1 1 1;law 3;");
@@ -182,6 +190,38 @@ final class RowSentencesTest extends Sentences {
         MendingRoads v = of("road 0 1 5 0 9;going 0 1 1 1;law 3;");
         rows(v, 0, 1);
         round(v, 0, 0, 14, 7);
+    }
+
+    /** Lands that wear by much at once, found by a search: the round is the one that is seen by going there day by day. */
+    private static void roundsByTheirDays() {
+        String[] lands = {
+            "law 7;road 0 1 2 2 1;road 0 1 8 0 25;" + "going 0 1 16 8;".repeat(4) + "going 0 1 123 9;going 0 1 16 6;going 0 1 16 4;",
+            "law 11;road 0 1 9 2 16;road 0 1 3 0 28;" + "going 0 1 2 8;".repeat(5) + "going 0 1 87 7;going 0 1 2 3;going 0 1 2 9;",
+            "law 10;road 0 1 7 2 4;road 0 1 5 2 24;" + "going 0 1 2 8;".repeat(3) + "going 0 1 2 9;going 0 1 2 7;going 0 1 127 8;",
+            "law 4;road 0 1 6 1 20;road 0 1 8 0 11;going 0 1 126 8;going 0 1 41 8;going 0 1 40 7;going 0 1 99 8;" + "going 0 1 32 9;".repeat(3)};
+        int[][] rows = {{0}, {0}, {0}, {0, 2, 0}};
+        for (int i = 0; i < lands.length; i++) {
+            MendingRoads x = of(lands[i]);
+            rows(x, rows[i]);
+            int[] due = roundSeen(lands[i], rows[i]);
+            due(due[0], x.ever(1));
+            due(due[1], x.ever(2));
+        }
+    }
+
+    /** Each number of days from a new object on, till one is as another was, at the same place of the row and of the week. */
+    private static int[] roundSeen(String land, int[] row) {
+        java.util.List<String> seen = new java.util.ArrayList<>();
+        for (int days = 0; days <= 366; days++) {
+            MendingRoads x = of(land);
+            rows(x, row);
+            if (days > 0) x.run(1, days);
+            String state = days % row.length + " " + x.told(6) % 7;
+            for (int r = 0; r < x.told(1); r++) state += " " + x.road(r, 5) + " " + x.road(r, 6);
+            if (seen.contains(state)) return new int[] {seen.indexOf(state), days - seen.indexOf(state)};
+            seen.add(state);
+        }
+        throw new IllegalStateException("no round in a year");
     }
 
     private static void fewestRoads() {
