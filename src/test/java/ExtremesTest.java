@@ -21,6 +21,7 @@ final class ExtremesTest extends Sentences {
             where = m.getName();
             for (Supplier<MendingRoads> land : lands) tryOut(m, land);
         }
+        lastCalls();
         end();
     }
 
@@ -34,6 +35,24 @@ final class ExtremesTest extends Sentences {
         feed(x, " ".repeat(600));
         x.run(1, 40);
         return x;
+    }
+
+    /** An object answers till its 512th call, here behind more than 500 years. */
+    private static void lastCalls() {
+        where = "512 calls";
+        String text = "law 3;road 0 1 5 0 30;going 0 1 1 1;";
+        MendingRoads x = new MendingRoads();
+        feed(x, text);
+        due(1, x.land(text.length()));
+        int calls = 3;
+        int days = 0;
+        while (calls < 511) {
+            int firstDays = (days + 366 + 6) / 7 - (days + 6) / 7;
+            due(5 * firstDays, x.run(0, 366));
+            days += 366;
+            calls++;
+        }
+        due(days, x.told(6));
     }
 
     private static void tryOut(Method m, Supplier<MendingRoads> land) throws IllegalAccessException {

@@ -168,6 +168,7 @@ final class RowSentencesTest extends Sentences {
             round(wear, 0, 0, 280, 30);
         }
         roundsByTheirDays();
+        roundsApartByOneWear();
         says("after how many DAYS for the first time, how long the ROUND is, whether ever a ROAD is past use, or a GOING STAYS.");
         // one a week, mended in between: the round begins at once
         MendingRoads x = of("road 0 1 5 0 9;going 0 1 1 1;law 3;");
@@ -222,6 +223,35 @@ final class RowSentencesTest extends Sentences {
             seen.add(state);
         }
         throw new IllegalStateException("no round in a year");
+    }
+
+    /**
+     * A week on all roads are as they were but for the first, of WEAR 1, not 33: in the first week road 2 was worn so
+     * that the way from 0 to 1 went by the roads 1 and 0, in the next it goes by 2 and 3.
+     */
+    private static void roundsApartByOneWear() {
+        String land = "places 6;law 3;road 2 1 15 0 30;road 0 2 15 0 30;road 0 3 1 9 30;road 3 1 10 0 30;road 4 5 1 0 1;road 4 5 1 0 1;"
+            + "going 0 1 64 2;going 2 1 64 1;going 0 2 64 1;going 0 3 64 1;going 3 1 64 1;"
+            + "going 0 2 16 2;going 0 3 16 1;going 2 1 32 9;going 2 1 32 9;going 2 1 32 9;going 2 1 32 3;going 0 3 32 2;going 3 1 32 2;";
+        MendingRoads x = of(land);
+        int[] firstWeek = {63, 63, 63, 63, 59, 2, 0};
+        for (int shut : firstWeek) x.day(shut);
+        for (int r = 0; r < 4; r++) due(0, x.road(r, 6));
+        due(33, x.road(0, 5));
+        due(3, x.road(1, 5));
+        due(4, x.road(2, 5));
+        due(3, x.road(3, 5));
+        rows(x, 63, 63, 63, 63, 0, 63, 0);
+        // all whole behind three days: there it begins, not at once
+        round(x, 0, 3, 7, 0);
+        x.run(1, 7);
+        for (int r = 0; r < 4; r++) due(0, x.road(r, 6));
+        due(1, x.road(0, 5));
+        due(3, x.road(1, 5));
+        due(4, x.road(2, 5));
+        due(3, x.road(3, 5));
+        // road 0 is not past use any more; on the sixth day all are shut, and some stay
+        round(x, 0, 0, 7, 5);
     }
 
     private static void fewestRoads() {
